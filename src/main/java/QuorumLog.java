@@ -691,12 +691,6 @@ public final class QuorumLog {
         final int[] serials = new int[CLIENTS];
         final int[] given = new int[CLIENTS];
 
-        void clear() {
-            Arrays.fill(values, 0);
-            Arrays.fill(serials, 0);
-            Arrays.fill(given, 0);
-        }
-
         void copyFrom(Table other) {
             System.arraycopy(other.values, 0, values, 0, KEYS);
             System.arraycopy(other.serials, 0, serials, 0, CLIENTS);
@@ -924,7 +918,8 @@ public final class QuorumLog {
 
         Server(int number, Snapshot first) {
             this.number = number;
-            this.snapshot = first;
+            snapshot = first;
+            reset(first);
         }
 
         void reset(Snapshot first) {
@@ -944,8 +939,6 @@ public final class QuorumLog {
             waited = 0;
             committed = snapshot.index;
             table.copyFrom(snapshot.table);
-            yeses = 0;
-            beatSteps = 0;
         }
 
         void goDown() {
@@ -1200,18 +1193,21 @@ public final class QuorumLog {
         int rounds;
 
         Cluster() {
-            Snapshot first = new Snapshot(0, 0, (1 << FIRST_MEMBERS) - 1, null);
+            Snapshot first = firstSnapshot(FIRST_MEMBERS);
             for (int i = 0; i < SERVERS; i++) {
                 servers[i] = new Server(i, first);
             }
             for (int i = 0; i < CLIENTS; i++) {
                 clients[i] = new Client();
             }
-            begin(FIRST_MEMBERS);
+        }
+
+        private static Snapshot firstSnapshot(int members) {
+            return new Snapshot(0, 0, (1 << members) - 1, null);
         }
 
         void begin(int members) {
-            Snapshot first = new Snapshot(0, 0, (1 << members) - 1, null);
+            Snapshot first = firstSnapshot(members);
             for (Server s : servers) {
                 s.reset(first);
             }
