@@ -918,7 +918,6 @@ public final class QuorumLog {
 
         Server(int number, Snapshot first) {
             this.number = number;
-            snapshot = first;
             reset(first);
         }
 

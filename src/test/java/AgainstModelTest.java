@@ -21,7 +21,10 @@ public final class AgainstModelTest {
         {0, 1, 2, 1, 2, 8, 0, 6, 2, 0, 1, 1, 4, 2, 2, 12, 12, 12, 40},
         {1, 3, 4, 3, 4, 5, 8, 8, 4, 6, 5, 5, 30, 6, 12, 6, 6, 6, 18},
         {0, 2, 2, 4, 4, 4, 8, 1, 1, 9, 1, 1, 20, 2, 20, 1, 1, 1, 3},
+        {0, 1, 2, 0, 1, 10, 1, 5, 6, 1, 0, 0, 5, 1, 0, 8, 8, 8, 50},
     };
+    /** The kind of run in which leaders alone shorten, so that the logs of others become long. */
+    private static final int LONG_LOGS = 6;
 
     private final Random random;
     private final int kind;
@@ -36,7 +39,7 @@ public final class AgainstModelTest {
     }
 
     public static void main(String[] args) throws Exception {
-        int runs = args.length > 0 ? Integer.parseInt(args[0]) : 300;
+        int runs = args.length > 0 ? Integer.parseInt(args[0]) : 700;
         for (Method m : QuorumLog.class.getDeclaredMethods()) {
             if (java.lang.reflect.Modifier.isPublic(m.getModifiers())) {
                 PROGRAM.put(m.getName(), m);
@@ -67,7 +70,7 @@ public final class AgainstModelTest {
         if (random.nextInt(4) > 0) {
             call("found", 1 + random.nextInt(7));
         }
-        for (int i = 0; i < 240 && !differs; i++) {
+        for (int i = 0; i < (kind == LONG_LOGS ? 480 : 240) && !differs; i++) {
             String name = pick();
             call(name, arguments(name));
             if (!differs && random.nextInt(3) == 0) {
@@ -134,6 +137,9 @@ public final class AgainstModelTest {
             case "beat": case "handOver": case "join": case "leave": case "nextOf": case "matchedOf":
                 return first ? someLeader() : random.nextInt(7);
             case "shorten":
+                if (kind == LONG_LOGS) {
+                    return Math.max(0, model.leader());
+                }
                 return random.nextBoolean() ? someLeader() : random.nextInt(7);
             default:
                 return random.nextInt(7);

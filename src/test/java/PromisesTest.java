@@ -1,5 +1,8 @@
 import java.util.ArrayList;
 import java.util.List;
+import java.util.function.Function;
+import java.util.function.Predicate;
+import java.util.function.Supplier;
 
 /** For each promise of the document: ordinary inputs, the edges that it names, and wrong inputs. */
 public final class PromisesTest {
@@ -103,6 +106,40 @@ public final class PromisesTest {
     private static void fill(QuorumLog x, int entries) {
         while (x.lastOf(0) - x.snapshotOf(0) < entries) {
             put(x, 0, 0, 0, 1);
+        }
+    }
+
+    private static void loseAll(QuorumLog x) {
+        while (x.messages() > 0) {
+            x.lose(0);
+        }
+    }
+
+    /** Just most of six are up, and they try in vain for a long time. */
+    private static QuorumLog lateElection() {
+        QuorumLog x = founded(6);
+        x.fail(2);
+        x.fail(4);
+        x.sound(5);
+        x.pass(2);
+        loseAll(x);
+        return x;
+    }
+
+    /** The question answers how many rounds are to go, as they go by, and -1 as long as they are more than 30. */
+    private static void countsDown(Supplier<QuorumLog> start, Function<QuorumLog, Integer> question,
+            Predicate<QuorumLog> isReached) {
+        QuorumLog real = start.get();
+        int rounds = 0;
+        while (rounds < 100 && !isReached.test(real)) {
+            real.pass(1);
+            rounds++;
+        }
+        is("more than 30 rounds", rounds > 30 && rounds < 100, true);
+        QuorumLog x = start.get();
+        for (int left = rounds; left >= 0; left--) {
+            is("with " + left + " to go", question.apply(x), left > 30 ? -1 : left);
+            x.pass(1);
         }
     }
 
@@ -456,9 +493,7 @@ public final class PromisesTest {
         x.shorten(0);
         put(x, 1, 0, 1, 8);
         rejoin(x, 2);
-        while (x.messages() > 0) {
-            x.lose(0);
-        }
+        loseAll(x);
         is("next", x.nextOf(0, 2), 2);
         x.beat(0);
         is("a snapshot for who is behind", row(x), "5:0>1 t1 i3; 7:0>2 t1 i2; ");
@@ -543,6 +578,32 @@ public final class PromisesTest {
         z.deliver(0);
         z.deliver(0);
         is("an old hurry is nothing", z.termOf(1), 2);
+        hurryWithALongLog();
+    }
+
+    /** Server 1 never shortens its log; with 47 entries it stands for election, with 48 it does not. */
+    private static void hurryWithALongLog() {
+        for (int entries = 47; entries <= 48; entries++) {
+            QuorumLog x = longLogs(entries);
+            x.handOver(0, 1);
+            x.deliver(x.messages() - 1);
+            is("stands with " + entries, x.roleOf(1), entries < 48 ? 2 : 0);
+            is("term with " + entries, x.termOf(1), entries < 48 ? 2 : 1);
+        }
+    }
+
+    /** Three members; server 0 leads and shortens its log, the others have so many entries, and all is committed. */
+    private static QuorumLog longLogs(int entries) {
+        QuorumLog x = settled(3);
+        for (int i = 2; i <= entries; i++) {
+            put(x, i % 4, 0, i % 8, i);
+            x.pass(4);
+            if (x.lastOf(0) - x.snapshotOf(0) > 30) {
+                x.shorten(0);
+            }
+        }
+        loseAll(x);
+        return x;
     }
 
     static void promise12() {
@@ -799,9 +860,7 @@ public final class PromisesTest {
         x.deliver(3);
         x.shorten(0);
         x.join(0, 3);
-        while (x.messages() > 0) {
-            x.lose(0);
-        }
+        loseAll(x);
         is("hurried too soon", x.matchedOf(0, 1), 1);
         x.beat(0);
         is("snapshot", x.kindOfMessage(1), 7);
@@ -868,6 +927,55 @@ public final class PromisesTest {
         is("the leader gives up", old.roleOf(0), 0);
         is("has the term", old.termOf(0), 2);
         is("voted for nobody", old.votedFor(0), -1);
+        oldMessagesOfTheSameLeader(false);
+        oldMessagesOfTheSameLeader(true);
+    }
+
+    /** Entries or a snapshot of term 1 arrive as their sender leads again in term 2: a no, with the index 0. */
+    private static void oldMessagesOfTheSameLeader(boolean asSnapshot) {
+        QuorumLog x = settled(3);
+        if (asSnapshot) {
+            x.shorten(0);
+            x.join(0, 3);
+            x.beat(0);
+            x.lose(0);
+            x.lose(0);
+            x.deliver(0);
+            x.deliver(0);
+            is("a snapshot", row(x), "7:0>3 t1 i1; ");
+            x.twice(0);
+            x.deliver(0);
+            x.deliver(1);
+            x.deliver(1);
+            x.lose(1);
+            is("3 has all", x.lastOf(3), 2);
+        } else {
+            x.beat(0);
+            x.lose(0);
+        }
+        int other = x.receiverOf(0);
+        for (int s = 0; s < 4; s++) {
+            x.fail(s);
+            x.recover(s);
+        }
+        x.sound(0);
+        deliverAllBut(x, 1);
+        is("leads again", x.termOf(0), 2);
+        is("the other has its term", x.termOf(other), 2);
+        is("next", x.nextOf(0, other), x.lastOf(0) + 1);
+        is("matched", x.matchedOf(0, other), x.lastOf(0));
+        put(x, 0, 0, 0, 1);
+        x.deliver(0);
+        is("no", row(x), "6:" + other + ">0 t2 i0; ");
+        x.deliver(0);
+        is("sends again at a no", row(x), "5:0>" + other + " t2 i" + x.lastOf(0) + "; ");
+    }
+
+    /** Delivers what is under way behind the first ones, until there is nothing more. */
+    private static void deliverAllBut(QuorumLog x, int first) {
+        for (int i = 0; i < 100 && x.messages() > first; i++) {
+            x.deliver(first);
+        }
     }
 
     static void promise22() {
@@ -913,9 +1021,7 @@ public final class PromisesTest {
         x.pass(4);
         is("committed", x.committedOf(1), 3);
         rejoin(x, 0);
-        while (x.messages() > 0) {
-            x.lose(0);
-        }
+        loseAll(x);
         is("next", x.nextOf(1, 0), 2);
         is("last of 0", x.lastOf(0), 4);
         x.beat(1);
@@ -957,9 +1063,7 @@ public final class PromisesTest {
         is("leads in term 5", x.termOf(1), 5);
         is("last", x.lastOf(1), 5);
         rejoin(x, 0);
-        while (x.messages() > 0) {
-            x.lose(0);
-        }
+        loseAll(x);
         is("next", x.nextOf(1, 0), 5);
         is("last of 0", x.lastOf(0), 5);
         x.beat(1);
@@ -1172,6 +1276,32 @@ public final class PromisesTest {
         x.askAdd(1, 0, 3);
         refused(x, STATE, "the next is not answered", () -> x.answerTo(1));
         noSuchClient(x, QuorumLog::answerTo);
+        snapshotKeepsWhatWasGiven();
+    }
+
+    /** The second entry of a request is committed by a leader whose table came from its snapshot. */
+    private static void snapshotKeepsWhatWasGiven() {
+        QuorumLog x = settled(3);
+        x.askAdd(0, 0, 5);
+        x.hand(0, 0);
+        x.beat(0);
+        x.hand(0, 0);
+        x.deliver(0);
+        x.deliver(1);
+        is("committed", x.committedOf(0), 2);
+        is("answered", x.answerTo(0), 5);
+        x.shorten(0);
+        loseAll(x);
+        for (int s = 0; s < 3; s++) {
+            x.fail(s);
+            x.recover(s);
+        }
+        x.sound(0);
+        x.pass(10);
+        is("leads again", x.roleOf(0), 3);
+        is("the second entry is applied", x.committedOf(0), 4);
+        is("with what the table says that it gave", x.answerTo(0), 5);
+        is("once", x.valueOf(0, 0), 5);
     }
 
     static void promise30() {
@@ -1326,6 +1456,39 @@ public final class PromisesTest {
         x.shorten(1);
         is("without entries", x.lastOf(1), 1);
         noSuchServer(x, QuorumLog::lastOf);
+        logsHaveNoEnd();
+    }
+
+    private static void logsHaveNoEnd() {
+        QuorumLog x = longLogs(70);
+        is("last", x.lastOf(1), 70);
+        is("snapshot", x.snapshotOf(1), 0);
+        is("sounding with so many", x.sound(1), 0);
+        int role = x.roleIfSounding(1);
+        for (int i = 71; i <= 100; i++) {
+            put(x, i % 4, 0, i % 8, i);
+            x.pass(4);
+            x.shorten(0);
+        }
+        is("role", role, 0);
+        is("last", x.lastOf(1), 100);
+        is("last term", x.lastTermOf(1), 1);
+        for (int i = 2; i <= 100; i++) {
+            is("value at " + i, x.valueAt(1, i), i);
+        }
+        is("digest", x.digest(), digestByHand(x));
+        is("agree", x.agreeUpTo(1, 2), 100);
+        int rounds = x.roundsToAgree();
+        x.pass(Math.max(rounds, 1));
+        is("agree then", x.roundsToAgree(), 0);
+        x.fail(1);
+        x.recover(1);
+        is("all to be applied again", x.committedOf(1), 0);
+        x.pass(2);
+        is("applied", x.committedOf(1), 100);
+        is("value", x.valueOf(1, 4), 100);
+        x.shorten(1);
+        is("shortened", x.snapshotOf(1), 100);
     }
 
     static void promise41() {
@@ -1369,9 +1532,7 @@ public final class PromisesTest {
         x.pass(4);
         is("committed", x.committedOf(0), 7);
         rejoin(x, 2);
-        while (x.messages() > 0) {
-            x.lose(0);
-        }
+        loseAll(x);
         x.beat(0);
         x.deliver(1);
         is("four entries", x.lastOf(2), 5);
@@ -1546,6 +1707,37 @@ public final class PromisesTest {
         is("next", x.nextOf(0, 1), 2);
         is("of no member", x.nextOf(0, 6), 1);
         refusedPairs(x, QuorumLog::nextOf);
+        nextStaysAtAnOldYes();
+    }
+
+    /** At a yes with an index that is no greater than matched, next stays, though a no has made it greater. */
+    private static void nextStaysAtAnOldYes() {
+        QuorumLog x = alone();
+        fill(x, 12);
+        is("joins", x.join(0, 1), 13);
+        x.beat(0);
+        x.twice(0);
+        x.deliver(0);
+        is("no, the log is empty", row(x), "5:0>1 t1 i13; 6:1>0 t1 i0; ");
+        x.deliver(1);
+        is("sends from the first on", row(x), "5:0>1 t1 i13; 5:0>1 t1 i4; ");
+        x.deliver(1);
+        x.twice(1);
+        x.deliver(1);
+        is("matched", x.matchedOf(0, 1), 4);
+        is("next", x.nextOf(0, 1), 5);
+        is("sends on", row(x), "5:0>1 t1 i13; 6:1>0 t1 i4; 5:0>1 t1 i8; ");
+        x.deliver(2);
+        x.lose(2);
+        x.deliver(0);
+        is("an old message, and a no", row(x), "6:1>0 t1 i4; 6:1>0 t1 i8; ");
+        x.deliver(1);
+        is("next behind the no", x.nextOf(0, 1), 9);
+        is("matched stays", x.matchedOf(0, 1), 4);
+        x.deliver(0);
+        is("next behind the old yes", x.nextOf(0, 1), 9);
+        is("matched", x.matchedOf(0, 1), 4);
+        is("sends again at each yes", row(x), "5:0>1 t1 i12; 5:0>1 t1 i12; ");
     }
 
     private static void refusedPairs(QuorumLog x, EntryQuestion question) {
@@ -1744,6 +1936,20 @@ public final class PromisesTest {
         y.recover(1);
         y.cut(0, 1);
         unchanged(y, "cut off", y::roundsToLeader, -1);
+        countsDown(PromisesTest::lateElection, QuorumLog::roundsToLeader, PromisesTest::isLed);
+    }
+
+    private static boolean isLed(QuorumLog x) {
+        for (int l = 0; l < 7; l++) {
+            boolean isLed = x.roleOf(l) == 3;
+            for (int s = 0; s < 7; s++) {
+                isLed &= s == l || !x.isUp(s) || !x.sees(l, s) || x.follows(s) == l;
+            }
+            if (isLed) {
+                return true;
+            }
+        }
+        return false;
     }
 
     private static void unchanged(QuorumLog x, String what, Call call, Object due) {
@@ -1768,6 +1974,25 @@ public final class PromisesTest {
         isolate(x, 0);
         unchanged(x, "cut off", () -> x.roundsToAnswer(1), -1);
         noSuchClient(x, QuorumLog::roundsToAnswer);
+        countsDown(PromisesTest::lateAnswer, y -> y.roundsToAnswer(0), y -> y.isAnswered(0));
+    }
+
+    /** Server 1 has a long log with a request at its end, and server 2, whom it needs, has nothing of it. */
+    private static QuorumLog lateAnswer() {
+        QuorumLog x = settled(3);
+        isolate(x, 2);
+        for (int i = 0; i < 36; i++) {
+            put(x, 1 + i % 3, 0, 0, 1);
+            x.pass(4);
+        }
+        put(x, 0, 0, 0, 1);
+        loseAll(x);
+        x.beat(0);
+        x.deliver(0);
+        x.fail(0);
+        rejoin(x, 2);
+        loseAll(x);
+        return x;
     }
 
     static void promise63() {
@@ -1787,6 +2012,18 @@ public final class PromisesTest {
         unchanged(x, "the leader must have committed it", x::roundsToAgree, -1);
         x.fail(0);
         unchanged(x, "no leader", x::roundsToAgree, -1);
+        countsDown(PromisesTest::lateElection, QuorumLog::roundsToAgree, PromisesTest::isAgreed);
+        countsDown(PromisesTest::lateAnswer, QuorumLog::roundsToAgree, PromisesTest::isAgreed);
+    }
+
+    private static boolean isAgreed(QuorumLog x) {
+        int l = x.leader();
+        boolean isAgreed = l >= 0;
+        for (int s = 0; s < 7 && isAgreed; s++) {
+            boolean counts = s == l || x.isUp(s) && x.sees(l, s);
+            isAgreed = !counts || x.committedOf(s) >= x.lastOf(l);
+        }
+        return isAgreed;
     }
 
     static void promise64() {
@@ -1819,6 +2056,35 @@ public final class PromisesTest {
         QuorumLog two = twoLeaders();
         unchanged(two, "one of two leaders", () -> two.roundsWithout(1), 0);
         noSuchServer(x, QuorumLog::roundsWithout);
+        countsDown(PromisesTest::lateElection, z -> z.roundsWithout(6), z -> z.leaders() > 0);
+        votesCountAsTheyAre();
+    }
+
+    /** Server 1 has voted for server 0 in term 1, so server 2 needs another term. */
+    private static void votesCountAsTheyAre() {
+        QuorumLog x = founded(3);
+        x.roundsWithout(0);
+        x.sound(0);
+        x.sound(2);
+        x.deliver(0);
+        x.deliver(2);
+        is("yeses of server 1", row(x), "1:0>2 t1 i0; 1:2>0 t1 i0; 2:1>0 t1 i1; 2:1>2 t1 i1; ");
+        x.lose(0);
+        x.lose(0);
+        x.deliver(0);
+        x.deliver(0);
+        is("calls", row(x), "3:0>1 t1 i0; 3:0>2 t1 i0; 3:2>0 t1 i0; 3:2>1 t1 i0; ");
+        x.deliver(0);
+        is("voted", x.votedFor(1), 0);
+        int due = x.roundsWithout(0);
+        x.fail(0);
+        int rounds = 0;
+        while (rounds < 30 && x.leaders() == 0) {
+            x.pass(1);
+            rounds++;
+        }
+        is("rounds", due, rounds);
+        is("in a later term", x.termOf(x.leader()) > 1, true);
     }
 
     static void promise66() {
