@@ -964,11 +964,10 @@ public final class PromisesTest {
         is("the other has its term", x.termOf(other), 2);
         is("next", x.nextOf(0, other), x.lastOf(0) + 1);
         is("matched", x.matchedOf(0, other), x.lastOf(0));
-        put(x, 0, 0, 0, 1);
         x.deliver(0);
         is("no", row(x), "6:" + other + ">0 t2 i0; ");
         x.deliver(0);
-        is("sends again at a no", row(x), "5:0>" + other + " t2 i" + x.lastOf(0) + "; ");
+        is("sends at a no, though there is nothing new", row(x), "5:0>" + other + " t2 i" + x.lastOf(0) + "; ");
     }
 
     /** Delivers what is under way behind the first ones, until there is nothing more. */
@@ -1279,7 +1278,7 @@ public final class PromisesTest {
         snapshotKeepsWhatWasGiven();
     }
 
-    /** The second entry of a request is committed by a leader whose table came from its snapshot. */
+    /** The second entry of a request is committed by a leader whose table came by a snapshot. */
     private static void snapshotKeepsWhatWasGiven() {
         QuorumLog x = settled(3);
         x.askAdd(0, 0, 5);
@@ -1292,16 +1291,25 @@ public final class PromisesTest {
         is("answered", x.answerTo(0), 5);
         x.shorten(0);
         loseAll(x);
+        x.beat(0);
+        is("a snapshot", x.kindOfMessage(1), 7);
+        x.deliver(1);
+        x.deliver(1);
+        x.deliver(1);
+        is("and the second entry", x.lastOf(2), 3);
+        is("not committed", x.committedOf(2), 2);
+        loseAll(x);
         for (int s = 0; s < 3; s++) {
             x.fail(s);
-            x.recover(s);
         }
-        x.sound(0);
+        x.recover(1);
+        x.recover(2);
+        x.sound(2);
         x.pass(10);
-        is("leads again", x.roleOf(0), 3);
-        is("the second entry is applied", x.committedOf(0), 4);
+        is("leads", x.leader(), 2);
+        is("the second entry is applied", x.committedOf(2), 4);
         is("with what the table says that it gave", x.answerTo(0), 5);
-        is("once", x.valueOf(0, 0), 5);
+        is("once", x.valueOf(2, 0), 5);
     }
 
     static void promise30() {
