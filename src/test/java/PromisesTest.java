@@ -1,155 +1,14 @@
-import java.util.ArrayList;
-import java.util.List;
-import java.util.function.Function;
-import java.util.function.Predicate;
 import java.util.function.Supplier;
 
 /** For each promise of the document: ordinary inputs, the edges that it names, and wrong inputs. */
-public final class PromisesTest {
-    private static final Class<?> INDEX = IndexOutOfBoundsException.class;
-    private static final Class<?> ARGUMENT = IllegalArgumentException.class;
-    private static final Class<?> STATE = IllegalStateException.class;
-    private static final int[] NO_SERVERS = {-1, 7, Integer.MAX_VALUE, Integer.MIN_VALUE};
-
-    private static final List<String> FAULTS = new ArrayList<>();
-    private static String promise = "";
-
-    interface Call {
-        Object on();
-    }
+public final class PromisesTest extends Checks {
 
     public static void main(String[] args) throws Exception {
         for (int i = 1; i <= 67; i++) {
-            promise = "promise " + i;
-            try {
-                PromisesTest.class.getDeclaredMethod("promise" + i).invoke(null);
-            } catch (java.lang.reflect.InvocationTargetException e) {
-                java.io.StringWriter trace = new java.io.StringWriter();
-                e.getCause().printStackTrace(new java.io.PrintWriter(trace));
-                FAULTS.add(promise + " stops with " + trace);
-            }
+            String name = "promise" + i;
+            play(name, PromisesTest.class.getDeclaredMethod(name));
         }
-        for (String fault : FAULTS) {
-            System.out.println(fault);
-        }
-        System.out.println(FAULTS.isEmpty() ? "all promises hold" : FAULTS.size() + " faults");
-        System.exit(FAULTS.isEmpty() ? 0 : 1);
-    }
-
-    // ---- helpers
-
-    private static void is(String what, Object got, Object due) {
-        if (!due.equals(got)) {
-            FAULTS.add(promise + ": " + what + " is " + got + ", due is " + due);
-        }
-    }
-
-    /** The call throws exactly this, and changes nothing. */
-    private static void refused(QuorumLog x, Class<?> due, String what, Call call) {
-        long before = x.digest();
-        Object got;
-        try {
-            got = call.on();
-        } catch (RuntimeException e) {
-            got = e.getClass();
-        }
-        is(what, got, due);
-        is("digest behind " + what, x.digest(), before);
-    }
-
-    private static QuorumLog founded(int members) {
-        QuorumLog x = new QuorumLog();
-        x.found(members);
-        return x;
-    }
-
-    /**
-     * Server 0 leads in term 1, all members follow it and have committed its empty entry with index 1,
-     * and nothing is under way (with three members behind round 14).
-     */
-    private static QuorumLog settled(int members) {
-        QuorumLog x = founded(members);
-        x.pass(14);
-        return x;
-    }
-
-    /** Cuts all links of a server. */
-    private static void isolate(QuorumLog x, int server) {
-        for (int other = 0; other < 7; other++) {
-            if (other != server) {
-                x.cut(server, other);
-            }
-        }
-    }
-
-    private static void rejoin(QuorumLog x, int server) {
-        for (int other = 0; other < 7; other++) {
-            if (other != server) {
-                x.mend(server, other);
-            }
-        }
-    }
-
-    private static int put(QuorumLog x, int client, int server, int key, int value) {
-        x.askPut(client, key, value);
-        return x.hand(client, server);
-    }
-
-    /** A single member, server 0, that leads in term 1 and has committed what it appended. */
-    private static QuorumLog alone() {
-        QuorumLog x = founded(1);
-        x.sound(0);
-        return x;
-    }
-
-    /** Hands over puts of client 0 to server 0, which must lead alone, until its log has so many entries. */
-    private static void fill(QuorumLog x, int entries) {
-        while (x.lastOf(0) - x.snapshotOf(0) < entries) {
-            put(x, 0, 0, 0, 1);
-        }
-    }
-
-    private static void loseAll(QuorumLog x) {
-        while (x.messages() > 0) {
-            x.lose(0);
-        }
-    }
-
-    /** Just most of six are up, and they try in vain for a long time. */
-    private static QuorumLog lateElection() {
-        QuorumLog x = founded(6);
-        x.fail(2);
-        x.fail(4);
-        x.sound(5);
-        x.pass(2);
-        loseAll(x);
-        return x;
-    }
-
-    /** The question answers how many rounds are to go, as they go by, and -1 as long as they are more than 30. */
-    private static void countsDown(Supplier<QuorumLog> start, Function<QuorumLog, Integer> question,
-            Predicate<QuorumLog> isReached) {
-        QuorumLog real = start.get();
-        int rounds = 0;
-        while (rounds < 100 && !isReached.test(real)) {
-            real.pass(1);
-            rounds++;
-        }
-        is("more than 30 rounds", rounds > 30 && rounds < 100, true);
-        QuorumLog x = start.get();
-        for (int left = rounds; left >= 0; left--) {
-            is("with " + left + " to go", question.apply(x), left > 30 ? -1 : left);
-            x.pass(1);
-        }
-    }
-
-    private static String row(QuorumLog x) {
-        StringBuilder row = new StringBuilder();
-        for (int i = 0; i < x.messages(); i++) {
-            row.append(x.kindOfMessage(i)).append(':').append(x.senderOf(i)).append('>').append(x.receiverOf(i))
-                    .append(" t").append(x.termOfMessage(i)).append(" i").append(x.tells(i)).append("; ");
-        }
-        return row.toString();
+        end("all promises hold");
     }
 
     // ---- the promises
@@ -592,20 +451,6 @@ public final class PromisesTest {
         }
     }
 
-    /** Three members; server 0 leads and shortens its log, the others have so many entries, and all is committed. */
-    private static QuorumLog longLogs(int entries) {
-        QuorumLog x = settled(3);
-        for (int i = 2; i <= entries; i++) {
-            put(x, i % 4, 0, i % 8, i);
-            x.pass(4);
-            if (x.lastOf(0) - x.snapshotOf(0) > 30) {
-                x.shorten(0);
-            }
-        }
-        loseAll(x);
-        return x;
-    }
-
     static void promise12() {
         QuorumLog x = settled(3);
         is("join", x.join(0, 5), 2);
@@ -970,13 +815,6 @@ public final class PromisesTest {
         is("sends at a no, though there is nothing new", row(x), "5:0>" + other + " t2 i" + x.lastOf(0) + "; ");
     }
 
-    /** Delivers what is under way behind the first ones, until there is nothing more. */
-    private static void deliverAllBut(QuorumLog x, int first) {
-        for (int i = 0; i < 100 && x.messages() > first; i++) {
-            x.deliver(first);
-        }
-    }
-
     static void promise22() {
         QuorumLog x = settled(3);
         put(x, 0, 0, 0, 1);
@@ -1094,7 +932,7 @@ public final class PromisesTest {
 
     private static void refusedRequests(QuorumLog x, Ask ask) {
         if (!x.isAnswered(1) && x.serialOf(1) > 0) {
-            FAULTS.add("client 1 must be free");
+            is("client 1 is free", false, true);
         }
         ask.of(2, 0, 1);
         refused(x, STATE, "not answered", () -> ask.of(2, 0, 1));
@@ -1612,19 +1450,6 @@ public final class PromisesTest {
         }
     }
 
-    /** A log with an entry of each kind: empty, put, add, swap and members, from index 1 to 5. */
-    private static QuorumLog allKinds() {
-        QuorumLog x = settled(3);
-        x.askPut(0, 1, 10);
-        x.hand(0, 0);
-        x.askAdd(1, 1, 20);
-        x.hand(1, 0);
-        x.askSwap(3, 1, 29, 30);
-        x.hand(3, 0);
-        x.join(0, 6);
-        return x;
-    }
-
     private static void snapshotHasNoEntry(EntryQuestion question) {
         QuorumLog x = settled(3);
         refused(x, INDEX, "index of the first snapshot", () -> question.of(x, 0, 0));
@@ -1772,16 +1597,6 @@ public final class PromisesTest {
         is("matched", x.matchedOf(0, 1), 2);
         is("of the other", x.matchedOf(0, 2), 1);
         refusedPairs(x, QuorumLog::matchedOf);
-    }
-
-    /** Server 0 leads yet in term 1, cut off; server 1 leads in term 2. */
-    private static QuorumLog twoLeaders() {
-        QuorumLog x = settled(3);
-        isolate(x, 0);
-        x.pass(4);
-        x.sound(1);
-        x.pass(6);
-        return x;
     }
 
     static void promise54() {
@@ -1944,27 +1759,7 @@ public final class PromisesTest {
         y.recover(1);
         y.cut(0, 1);
         unchanged(y, "cut off", y::roundsToLeader, -1);
-        countsDown(PromisesTest::lateElection, QuorumLog::roundsToLeader, PromisesTest::isLed);
-    }
-
-    private static boolean isLed(QuorumLog x) {
-        for (int l = 0; l < 7; l++) {
-            boolean isLed = x.roleOf(l) == 3;
-            for (int s = 0; s < 7; s++) {
-                isLed &= s == l || !x.isUp(s) || !x.sees(l, s) || x.follows(s) == l;
-            }
-            if (isLed) {
-                return true;
-            }
-        }
-        return false;
-    }
-
-    private static void unchanged(QuorumLog x, String what, Call call, Object due) {
-        long before = x.digest();
-        is(what, call.on(), due);
-        is("digest behind " + what, x.digest(), before);
-        is(what + ", once more", call.on(), due);
+        countsDown(Checks::lateElection, QuorumLog::roundsToLeader, Checks::isLed);
     }
 
     static void promise62() {
@@ -1982,25 +1777,7 @@ public final class PromisesTest {
         isolate(x, 0);
         unchanged(x, "cut off", () -> x.roundsToAnswer(1), -1);
         noSuchClient(x, QuorumLog::roundsToAnswer);
-        countsDown(PromisesTest::lateAnswer, y -> y.roundsToAnswer(0), y -> y.isAnswered(0));
-    }
-
-    /** Server 1 has a long log with a request at its end, and server 2, whom it needs, has nothing of it. */
-    private static QuorumLog lateAnswer() {
-        QuorumLog x = settled(3);
-        isolate(x, 2);
-        for (int i = 0; i < 36; i++) {
-            put(x, 1 + i % 3, 0, 0, 1);
-            x.pass(4);
-        }
-        put(x, 0, 0, 0, 1);
-        loseAll(x);
-        x.beat(0);
-        x.deliver(0);
-        x.fail(0);
-        rejoin(x, 2);
-        loseAll(x);
-        return x;
+        countsDown(Checks::lateAnswer, y -> y.roundsToAnswer(0), y -> y.isAnswered(0));
     }
 
     static void promise63() {
@@ -2020,18 +1797,8 @@ public final class PromisesTest {
         unchanged(x, "the leader must have committed it", x::roundsToAgree, -1);
         x.fail(0);
         unchanged(x, "no leader", x::roundsToAgree, -1);
-        countsDown(PromisesTest::lateElection, QuorumLog::roundsToAgree, PromisesTest::isAgreed);
-        countsDown(PromisesTest::lateAnswer, QuorumLog::roundsToAgree, PromisesTest::isAgreed);
-    }
-
-    private static boolean isAgreed(QuorumLog x) {
-        int l = x.leader();
-        boolean isAgreed = l >= 0;
-        for (int s = 0; s < 7 && isAgreed; s++) {
-            boolean counts = s == l || x.isUp(s) && x.sees(l, s);
-            isAgreed = !counts || x.committedOf(s) >= x.lastOf(l);
-        }
-        return isAgreed;
+        countsDown(Checks::lateElection, QuorumLog::roundsToAgree, Checks::isAgreed);
+        countsDown(Checks::lateAnswer, QuorumLog::roundsToAgree, Checks::isAgreed);
     }
 
     static void promise64() {
@@ -2064,7 +1831,7 @@ public final class PromisesTest {
         QuorumLog two = twoLeaders();
         unchanged(two, "one of two leaders", () -> two.roundsWithout(1), 0);
         noSuchServer(x, QuorumLog::roundsWithout);
-        countsDown(PromisesTest::lateElection, z -> z.roundsWithout(6), z -> z.leaders() > 0);
+        countsDown(Checks::lateElection, z -> z.roundsWithout(6), z -> z.leaders() > 0);
         votesCountAsTheyAre();
     }
 
@@ -2123,47 +1890,4 @@ public final class PromisesTest {
         }
     }
 
-    private static long digestByHand(QuorumLog x) {
-        List<Integer> v = new ArrayList<>(List.of(x.round(), x.lost(), x.messages(), x.leader(), x.leaders(),
-                x.committed()));
-        for (int m = 0; m < x.messages(); m++) {
-            v.addAll(List.of(x.kindOfMessage(m), x.senderOf(m), x.receiverOf(m), x.termOfMessage(m), x.tells(m)));
-        }
-        for (int c = 0; c < 4; c++) {
-            v.add(x.serialOf(c));
-            v.add(x.isAnswered(c) ? 1 : 0);
-            if (x.isAnswered(c)) {
-                v.add(x.answerTo(c));
-            }
-        }
-        for (int s = 0; s < 7; s++) {
-            v.addAll(List.of(x.isUp(s) ? 1 : 0, x.roleOf(s), x.termOf(s), x.votedFor(s), x.follows(s)));
-            v.addAll(List.of(x.waitedOf(s), x.snapshotOf(s), x.lastOf(s), x.lastTermOf(s), x.committedOf(s)));
-            v.addAll(List.of(x.membersOf(s), x.couldWin(s) ? 1 : 0));
-            for (int i = x.snapshotOf(s) + 1; i <= x.lastOf(s); i++) {
-                v.addAll(List.of(x.termAt(s, i), x.kindAt(s, i), x.valueAt(s, i), x.clientAt(s, i)));
-                v.addAll(List.of(x.serialAt(s, i), x.copiesOf(s, i)));
-            }
-            for (int k = 0; k < 8; k++) {
-                v.add(x.valueOf(s, k));
-            }
-            for (int c = 0; c < 4; c++) {
-                v.add(x.appliedSerial(s, c));
-            }
-            for (int o = 0; o < 7; o++) {
-                if (x.roleOf(s) == 3 && o != s) {
-                    v.add(x.nextOf(s, o));
-                    v.add(x.matchedOf(s, o));
-                }
-            }
-            for (int o = 0; o < 7; o++) {
-                v.add(x.agreeUpTo(s, o));
-            }
-        }
-        long d = 2423;
-        for (int each : v) {
-            d = d * 31 + each;
-        }
-        return d;
-    }
 }
