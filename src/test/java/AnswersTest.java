@@ -1,4 +1,5 @@
 import java.util.List;
+import java.util.function.Predicate;
 import java.util.function.Supplier;
 
 /** The sentences of the promises that say what a call does and answers, and name a boundary case. */
@@ -173,13 +174,14 @@ public final class AnswersTest extends Checks {
         restart(x, 1);
         is("the last one that is applied", x.membersOf(1), 5);
         QuorumLog y = settled(3);
+        y.shorten(0);
         y.join(0, 5);
         y.pass(6);
-        y.shorten(0);
         y.join(0, 6);
         put(y, 0, 0, 0, 1);
+        is("of 2 to 4, only the first one is applied", y.shorten(0) + " " + y.snapshotOf(0) + " " + y.lastOf(0), "1 2 4");
         leadsWithout(y);
-        is("the one that is not applied is taken away, the snapshot has the one before", y.membersOf(0), 4);
+        is("the one that was not is taken away, the snapshot has the one that was", y.membersOf(0), 4);
         QuorumLog z = settled(3);
         z.join(0, 5);
         z.pass(6);
@@ -328,10 +330,56 @@ public final class AnswersTest extends Checks {
         is("with the entries of then", y.lastOf(1) + " " + y.valueAt(1, 2), "2 5");
         is("told as it is", row(y), "6:1>0 t1 i2; ");
         y.twice(0);
+        y.lose(0);
         y.deliver(0);
         is("as a yes", y.matchedOf(0, 1), 2);
+        loseAll(y);
+        sendsTo(y, 0, 2);
+        crowd(y, 50);
+        lastArrives(y, 5, 0, 2);
+        is("with how far the leader had committed", y.lastOf(2) + " " + y.committedOf(2), "3 2");
+    }
+
+    @Says(in = "Promise 17", value = "Sends a message once more, just as it is.")
+    static void twiceKeepsSnapshotsAndNoes() {
+        QuorumLog x = settled(3);
+        put(x, 0, 0, 1, 5);
+        sendsTo(x, 0, 1);
+        x.deliver(0);
+        x.deliver(0);
+        x.shorten(0);
+        sendsTo(x, 0, 2);
+        x.twice(0);
+        x.lose(0);
+        is("a snapshot", row(x), "7:0>2 t1 i2; ");
+        x.deliver(0);
+        is("with its table", x.snapshotOf(2) + " " + x.valueOf(2, 1), "2 5");
+        loseAll(x);
+        x.join(0, 6);
+        sendsTo(x, 0, 6);
+        x.deliver(0);
+        is("an answer", row(x), "6:6>0 t1 i0; ");
+        x.twice(0);
+        x.lose(0);
+        x.deliver(0);
+        is("as a no", x.nextOf(0, 6) + " " + row(x), "1 7:0>6 t1 i2; ");
+        QuorumLog y = founded(3);
+        y.sound(0);
+        y.twice(0);
+        y.lose(0);
+        lastArrives(y, 1, 0, 1);
+        y.twice(1);
+        y.lose(1);
+        lastArrives(y, 2, 1, 0);
+        is("a yes to a sound", y.roleOf(0), 2);
+        loseAllBut(y, 3, 0, 1);
+        y.twice(0);
+        y.lose(0);
         y.deliver(0);
-        is("as a yes again", y.matchedOf(0, 1), 2);
+        y.twice(0);
+        y.lose(0);
+        y.deliver(0);
+        is("a call, and a yes to it", y.roleOf(0), 3);
     }
 
     @Says(in = "Promise 18", value = "Returns its kind, 1 to 8.")
@@ -940,6 +988,13 @@ public final class AnswersTest extends Checks {
         is("none goes so far", x.copiesOf(0, 4), 1);
         leadsAnew(x, 1, 2);
         is("with another term", x.copiesOf(1, 4) + " " + x.copiesOf(0, 4), "1 1");
+        x.cut(0, 1);
+        x.beat(1);
+        deliverAllBut(x, 0);
+        is("committed by 1 and 2", x.committedOf(1) + " " + x.copiesOf(1, 4) + " " + x.copiesOf(0, 4), "4 2 1");
+        x.shorten(1);
+        is("a snapshot that goes as far counts, though its term is another", x.copiesOf(0, 4), 2);
+        is("and one that goes further", x.copiesOf(0, 3), 3);
         QuorumLog y = settled(3);
         y.leave(0, 0);
         is("it is no member itself", y.copiesOf(0, 1) + " " + y.copiesOf(0, 2), "2 0");
@@ -988,10 +1043,15 @@ public final class AnswersTest extends Checks {
 
     @Says(in = "Promise 60", value = "Returns how many different values of it the tables of servers that are up have.")
     static void valuesFromNoneOn() {
+        valuesOfFour(1);
+        valuesOfFour(-1);
+    }
+
+    private static void valuesOfFour(int sign) {
         QuorumLog x = settled(3);
         is("0 everywhere", x.valuesOf(0), 1);
         for (int value = 1; value <= 3; value++) {
-            put(x, 0, 0, 0, value);
+            put(x, 0, 0, 0, sign * value);
             sendsTo(x, 0, 1);
             x.deliver(0);
             x.deliver(0);
@@ -1001,7 +1061,8 @@ public final class AnswersTest extends Checks {
                 loseAll(x);
             }
         }
-        is("values", x.valueOf(0, 0) + " " + x.valueOf(1, 0) + " " + x.valueOf(2, 0) + " " + x.valueOf(3, 0), "3 2 1 0");
+        is("values", sign * x.valueOf(0, 0) + " " + sign * x.valueOf(1, 0) + " " + sign * x.valueOf(2, 0) + " "
+                + x.valueOf(3, 0), "3 2 1 0");
         is("four", x.valuesOf(0), 4);
         is("of another key", x.valuesOf(7), 1);
         x.fail(1);
@@ -1165,6 +1226,115 @@ public final class AnswersTest extends Checks {
         is("no sound is sent", row(z), "1:0>2 t1 i0; 2:1>0 t1 i1; ");
     }
 
+    /** In each of these states, what would be is what comes to be. */
+    private static List<Supplier<QuorumLog>> manyStates() {
+        return List.of(QuorumLog::new, () -> founded(7), () -> settled(3), Checks::alone, Checks::allKinds,
+                Checks::twoLeaders, () -> longLogs(60), AnswersTest::crowded, AnswersTest::behindSnapshot,
+                AnswersTest::leaving, AnswersTest::halfElected, AnswersTest::cutInTwo);
+    }
+
+    /** Server 0 has a snapshot up to 3 and entries behind it, server 2 needs the snapshot, which is sent twice. */
+    private static QuorumLog behindSnapshot() {
+        QuorumLog x = twoHaveThree();
+        x.shorten(0);
+        put(x, 0, 0, 0, 7);
+        sendsTo(x, 0, 2);
+        x.twice(0);
+        x.lose(0);
+        restart(x, 1);
+        return x;
+    }
+
+    private static QuorumLog leaving() {
+        QuorumLog x = settled(5);
+        x.pass(1);
+        x.leave(0, 0);
+        put(x, 0, 0, 0, 7);
+        return x;
+    }
+
+    private static QuorumLog halfElected() {
+        QuorumLog x = settled(5);
+        put(x, 0, 0, 0, 7);
+        x.fail(0);
+        x.pass(6);
+        x.deliver(x.messages() - 1);
+        return x;
+    }
+
+    private static QuorumLog cutInTwo() {
+        QuorumLog x = settled(5);
+        put(x, 0, 0, 0, 7);
+        x.beat(0);
+        for (int s = 2; s < 5; s++) {
+            x.cut(0, s);
+            x.cut(1, s);
+        }
+        return x;
+    }
+
+    private static int comesTo(QuorumLog x, Predicate<QuorumLog> isReached) {
+        for (int rounds = 0; rounds <= 30; rounds++) {
+            if (isReached.test(x)) {
+                return rounds;
+            }
+            x.pass(1);
+        }
+        return -1;
+    }
+
+    @Says(in = "Promise 61", value = TO_LEADER)
+    static void leaderComesAsItWould() {
+        for (Supplier<QuorumLog> state : manyStates()) {
+            is("rounds", state.get().roundsToLeader(), comesTo(state.get(), Checks::isLed));
+        }
+    }
+
+    @Says(in = "Promise 62", value = TO_ANSWER)
+    static void answerComesAsItWould() {
+        for (Supplier<QuorumLog> state : manyStates()) {
+            for (int c = 0; c < 4; c++) {
+                int client = c;
+                is("rounds", state.get().roundsToAnswer(c),
+                        comesTo(state.get(), x -> x.serialOf(client) == 0 || x.isAnswered(client)));
+            }
+        }
+    }
+
+    @Says(in = "Promise 63", value = TO_AGREE)
+    static void agreementComesAsItWould() {
+        for (Supplier<QuorumLog> state : manyStates()) {
+            is("rounds", state.get().roundsToAgree(), comesTo(state.get(), Checks::isAgreed));
+        }
+    }
+
+    @Says(in = "Promise 64", value = "Returns its role behind three rounds, if it sounded now, and only rounds went by;"
+            + " -1 if sound() would be refused.")
+    static void roleComesAsItWould() {
+        for (Supplier<QuorumLog> state : manyStates()) {
+            for (int s = 0; s < 7; s++) {
+                int server = s;
+                QuorumLog x = state.get();
+                boolean refused = outcome(() -> x.sound(server)) == STATE;
+                x.pass(3);
+                is("role of " + s, state.get().roleIfSounding(s), refused ? -1 : x.roleOf(s));
+            }
+        }
+    }
+
+    @Says(in = "Promise 65", value = WITHOUT)
+    static void leaderWithoutComesAsItWould() {
+        for (Supplier<QuorumLog> state : manyStates()) {
+            for (int s = 0; s < 7; s++) {
+                QuorumLog x = state.get();
+                if (x.isUp(s)) {
+                    x.fail(s);
+                    is("rounds without " + s, state.get().roundsWithout(s), comesTo(x, y -> y.leaders() > 0));
+                }
+            }
+        }
+    }
+
     private static final String WITHOUT = "Returns behind how many rounds there is a leader for the first time, if this"
             + " server failed now, and only rounds went by; 0 if there is another leader now; -1 if not within 30.";
 
@@ -1243,7 +1413,7 @@ public final class AnswersTest extends Checks {
             + " server, by numbers.", "Returns d."})
     static void checksums() {
         QuorumLog[] all = {new QuorumLog(), founded(1), founded(7), settled(3), allKinds(), alone(), longLogs(50),
-            twoHaveThree(), lateElection(), lateAnswer()};
+            twoHaveThree(), lateElection(), lateAnswer(), twoLeaders()};
         for (QuorumLog x : all) {
             is("digest", x.digest(), digestByHand(x));
             x.pass(1);

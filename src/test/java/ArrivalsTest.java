@@ -461,6 +461,39 @@ public final class ArrivalsTest extends Checks {
         return x;
     }
 
+    /**
+     * Server 2 led in term 2, and has 2 and 3 of that term, behind 1 of term 1; server 0 leads in term 3, and has 1 to
+     * 3 of term 1 and 4 of term 3.
+     */
+    private static QuorumLog greaterTermOfItsOwn() {
+        QuorumLog x = settled(3);
+        put(x, 0, 0, 0, 2);
+        put(x, 1, 0, 0, 3);
+        leadsAnew(x, 2, 1);
+        put(x, 2, 2, 0, 4);
+        restart(x, 0);
+        x.sound(0);
+        arrives(x, 1, 0, 1);
+        arrives(x, 2, 1, 0);
+        leadsAnew(x, 0, 1);
+        is("of 2", x.lastOf(2) + " " + x.termAt(2, 1) + " " + x.termAt(2, 2) + " " + x.termAt(2, 3), "3 1 2 2");
+        is("of 0", x.lastOf(0) + " " + x.termAt(0, 3) + " " + x.termAt(0, 4) + " " + x.nextOf(0, 2), "4 1 3 4");
+        return x;
+    }
+
+    @Says(in = "Terms 3", value = PREVIOUS)
+    static void previousWithAGreaterTermOfItsOwn() {
+        QuorumLog x = greaterTermOfItsOwn();
+        sendsTo(x, 0, 2);
+        x.deliver(0);
+        is("an entry with this index and a greater term is not it", row(x), "6:2>0 t3 i1; ");
+        x.deliver(0);
+        is("2 to 4 come", row(x), "5:0>2 t3 i4; ");
+        x.deliver(0);
+        is("those of the greater term are taken away", x.lastOf(2) + " " + x.termAt(2, 2) + " " + x.termAt(2, 3) + " "
+                + x.termAt(2, 4), "4 1 1 3");
+    }
+
     private static final String WHERE_TO_GO_ON = "If it has not, it sends back a no (6) with its term and an index: its"
             + " last index, if that is less than the previous one; otherwise the index ahead of all entries right up to"
             + " that with the previous index, in its log, that have the same term as this one of its own, but no less"
@@ -582,6 +615,13 @@ public final class ArrivalsTest extends Checks {
         is("1 to 4 come", row(y), "5:1>0 t3 i4; ");
         y.deliver(0);
         is("4 takes 4 to 6 away", y.lastOf(0) + " " + y.termAt(0, 3) + " " + y.termAt(0, 4), "4 1 2");
+        QuorumLog z = settled(3);
+        put(z, 0, 0, 0, 2);
+        leadsAnew(z, 1, 2);
+        sendsTo(z, 1, 0);
+        is("of 0: 2, of term 1, is the last one", z.lastOf(0) + " " + z.termAt(0, 2) + " " + row(z), "2 1 5:1>0 t2 i2; ");
+        z.deliver(0);
+        is("it alone is taken away", z.lastOf(0) + " " + z.termAt(0, 2) + " " + row(z), "2 2 6:0>1 t2 i2; ");
     }
 
     private static final String COMMITTED = "then it has committed up to where the leader had committed as it sent this,"
@@ -813,6 +853,20 @@ public final class ArrivalsTest extends Checks {
         is("a no", lastMessage(x), "6:2>0 t2 i0; ");
         is("is not taken", x.snapshotOf(2) + " " + x.lastOf(2), "0 1");
         is("is not followed", state(x, 2), "role 0 term 2 voted 1 follows -1 waited 0");
+        QuorumLog y = snapshotForTwo();
+        restart(y, 0, 2);
+        y.sound(0);
+        arrives(y, 1, 0, 2);
+        arrives(y, 2, 2, 0);
+        arrives(y, 3, 0, 2);
+        arrives(y, 4, 2, 0);
+        is("leads again, in term 2", y.roleOf(0) + " " + y.termOf(0) + " " + y.nextOf(0, 2), "3 2 3");
+        loseAllBut(y, 7, 0, 2);
+        is("the snapshot of term 1", row(y), "7:0>2 t1 i2; ");
+        y.deliver(0);
+        is("a no with the index 0", row(y), "6:2>0 t2 i0; ");
+        y.deliver(0);
+        is("as a no it makes next less", y.nextOf(0, 2) + " " + row(y), "1 7:0>2 t2 i2; ");
     }
 
     /** A snapshot up to 2 is under way to server 2, which has only 1. */
@@ -891,6 +945,8 @@ public final class ArrivalsTest extends Checks {
             is("committed then", x.committedOf(2), Math.max(2, committed));
             is("table", x.valueOf(2, 3), committed < 3 ? 5 : 6);
             is("a yes with its index", row(x), "6:2>0 t1 i2; ");
+            x.deliver(0);
+            is("as a yes", x.matchedOf(0, 2), 2);
         }
     }
 
@@ -898,6 +954,9 @@ public final class ArrivalsTest extends Checks {
     static void snapshotsKeepWhatIsBehindAnEntryOfThem() {
         for (int last = 2; last <= 5; last++) {
             QuorumLog x = settled(3);
+            if (last % 2 == 1) {
+                x.shorten(2);
+            }
             for (int index = 2; index <= 5; index++) {
                 put(x, index - 2, 0, 3, index);
                 if (index == last) {

@@ -17,14 +17,32 @@ abstract class Checks {
     static final Class<?> STATE = IllegalStateException.class;
     static final int[] NO_SERVERS = {-1, 7, Integer.MAX_VALUE, Integer.MIN_VALUE};
 
+    private static final long MOST_SECONDS = 120;
     private static final List<String> FAULTS = new ArrayList<>();
-    private static String test = "";
+    private static volatile String test = "";
 
     interface Call {
         Object on();
     }
 
     // ---- how tests are played
+
+    static {
+        Thread guard = new Thread(Checks::endTestsWithoutEnd);
+        guard.setDaemon(true);
+        guard.start();
+    }
+
+    /** A program that is broken may make a test go on for ever; that is a fault, too. */
+    private static void endTestsWithoutEnd() {
+        try {
+            Thread.sleep(1000 * MOST_SECONDS);
+        } catch (InterruptedException e) {
+            return;
+        }
+        System.out.println(test + " has no end");
+        Runtime.getRuntime().halt(1);
+    }
 
     static void play(String name, Method method) throws Exception {
         test = name;

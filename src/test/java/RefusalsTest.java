@@ -59,9 +59,10 @@ public final class RefusalsTest extends Checks {
     private static QuorumLog crowded() {
         QuorumLog x = settled(3);
         put(x, 0, 0, 2, 7);
-        while (x.messages() < 60) {
+        for (int i = 0; i < 30; i++) {
             x.beat(0);
         }
+        is("under way", x.messages(), 60);
         return x;
     }
 
@@ -119,6 +120,30 @@ public final class RefusalsTest extends Checks {
     private static QuorumLog joining() {
         QuorumLog x = led();
         x.join(0, 3);
+        return x;
+    }
+
+    /** The snapshot of server 0 goes up to 2, 3 is committed, 4, an entry of members, is not. */
+    private static QuorumLog joiningBehind() {
+        QuorumLog x = led();
+        put(x, 0, 0, 0, 2);
+        x.pass(6);
+        put(x, 1, 0, 0, 3);
+        x.beat(0);
+        x.join(0, 5);
+        x.shorten(0);
+        for (int s = 1; s <= 2; s++) {
+            arrives(x, 5, 0, s);
+            arrives(x, 6, s, 0);
+        }
+        is("snapshot, committed, last", x.snapshotOf(0) + " " + x.committedOf(0) + " " + x.lastOf(0), "2 3 4");
+        return x;
+    }
+
+    private static QuorumLog joined() {
+        QuorumLog x = joiningBehind();
+        x.pass(6);
+        is("snapshot, committed", x.snapshotOf(0) + " " + x.committedOf(0), "2 4");
         return x;
     }
 
@@ -445,7 +470,7 @@ public final class RefusalsTest extends Checks {
             + " or the other one is among the members that it sees")
     static void joinsOnlyIfItMay() {
         needsLeader((x, leader, other) -> x.join(leader, 6));
-        changesMembersOnlyIfItMay((x, leader, other) -> x.join(leader, 5));
+        changesMembersOnlyIfItMay((x, leader, other) -> x.join(leader, 6));
         for (int s = 0; s < 3; s++) {
             int member = s;
             refuses("a member", RefusalsTest::led, STATE, x -> x.join(0, member));
@@ -459,6 +484,8 @@ public final class RefusalsTest extends Checks {
         refuses("nothing is committed", RefusalsTest::early, STATE, x -> use.of(x, 0, 1));
         refuses("nothing of its own term is", RefusalsTest::early2, STATE, x -> use.of(x, 1, 0));
         refuses("an entry of members", RefusalsTest::joining, STATE, x -> use.of(x, 0, 1));
+        refuses("one behind what is committed", RefusalsTest::joiningBehind, STATE, x -> use.of(x, 0, 1));
+        answers("committed then", RefusalsTest::joined, 5, x -> use.of(x, 0, 5));
         for (int entries = 39; entries <= 42; entries++) {
             int all = entries;
             Object due = all < 40 ? Integer.valueOf(all + 3) : STATE;

@@ -129,6 +129,33 @@ public final class Terms1Test extends Checks {
         }
     }
 
+    /** A request handed over again and again; server 0 shortens its log, the others never do. */
+    @Says(in = "Terms 1", value = "The log is a row of entries with indices one behind the other.")
+    static void logsThatAreNotShortenedHaveNoEnd() {
+        QuorumLog x = settled(3);
+        while (x.lastOf(0) < 132) {
+            x.askAdd(0, 0, 1);
+            for (int i = x.lastOf(0) == 1 ? 1 : 0; i < 4; i++) {
+                x.hand(0, 0);
+            }
+            x.pass(4);
+            is("last of 1", x.lastOf(1) + " " + x.lastTermOf(1), x.lastOf(0) + " 1");
+            if (x.lastOf(0) - x.snapshotOf(0) > 30) {
+                x.shorten(0);
+            }
+        }
+        x.pass(4);
+        int last = x.lastOf(0);
+        is("of one that does not shorten", x.snapshotOf(1) + " " + x.lastOf(1) + " " + x.committedOf(1), "0 " + last + " " + last);
+        for (int index = 2; index <= last; index++) {
+            is("serial at " + index, x.serialAt(1, index), 1 + (index - 1) / 4);
+        }
+        is("applied", x.valueOf(1, 0), last / 4);
+        is("would agree", x.roundsToAgree(), 0);
+        is("agree", x.agreeUpTo(1, 2), last);
+        is("less by one half", x.shorten(1), last);
+    }
+
     @Says(in = "Terms 1", value = {
         "An entry has a term and a kind: 0 empty, 1 put, 2 add, 3 swap, 4 members.",
         "Put, add and swap have a client, a serial, a key and a value, swap an expected value, too;"
@@ -256,6 +283,31 @@ public final class Terms1Test extends Checks {
         is("what it gave the first is kept", x.answerTo(0), 11);
     }
 
+    /** The second entry of a request is applied by a leader whose table came with a snapshot. */
+    @Says(in = "Terms 1", value = {"and what that gave.", "The snapshot has an index and a term, and the table"})
+    static void whatItGaveIsInTheSnapshot() {
+        QuorumLog x = settled(3);
+        x.askAdd(0, 0, 5);
+        x.hand(0, 0);
+        sendsTo(x, 0, 1);
+        x.hand(0, 0);
+        x.deliver(0);
+        x.deliver(0);
+        is("committed, answered", x.committedOf(0) + " " + x.answerTo(0), "2 5");
+        x.shorten(0);
+        loseAll(x);
+        sendsTo(x, 0, 2);
+        x.deliver(0);
+        x.deliver(0);
+        x.deliver(0);
+        is("a snapshot up to 2, and 3", x.snapshotOf(2) + " " + x.lastOf(2), "2 3");
+        x.fail(0);
+        leadsAnew(x, 2, 1);
+        x.pass(6);
+        is("applied the second one", x.leader() + " " + x.committedOf(2), "2 4");
+        is("answers what the first one gave", x.answerTo(0) + " " + x.valueOf(2, 0), "5 5");
+    }
+
     @Says(in = "Terms 1", value = "The members that a server sees are those of the last entry of members in its log"
             + " (committed or not), without one those of its snapshot.")
     static void membersOfTheLastEntry() {
@@ -280,6 +332,19 @@ public final class Terms1Test extends Checks {
         x.shorten(0);
         is("no entries", x.lastOf(0), x.snapshotOf(0));
         is("of the newer snapshot", x.membersOf(0), 4);
+        QuorumLog z = settled(3);
+        z.join(0, 3);
+        z.pass(6);
+        z.shorten(0);
+        z.leave(0, 3);
+        z.pass(6);
+        z.join(0, 5);
+        sendsTo(z, 0, 5);
+        arrives(z, 5, 0, 5);
+        arrives(z, 6, 5, 0);
+        is("a snapshot", row(z) + z.membersOf(5), "7:0>5 t1 i2; 3");
+        arrives(z, 7, 0, 5);
+        is("those of a snapshot that comes", z.membersOf(5) + " " + z.sees(5, 3) + " " + z.sees(5, 5), "4 true false");
         QuorumLog y = settled(3);
         isolate(y, 0);
         y.leave(0, 1);

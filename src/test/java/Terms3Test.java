@@ -284,6 +284,45 @@ public final class Terms3Test extends Checks {
         elderTermsAreNotCommittedByCopies();
     }
 
+    @Says(in = "Terms 3", value = "itself, if it is among them, and those whose matched is as great or greater.")
+    static void greaterMatchedCountsAsWell() {
+        QuorumLog x = settled(5);
+        put(x, 0, 0, 0, 1);
+        x.beat(0);
+        put(x, 1, 0, 0, 2);
+        x.beat(0);
+        lastArrives(x, 5, 0, 1);
+        arrives(x, 6, 1, 0);
+        is("one has 3", x.matchedOf(0, 1) + " " + x.committedOf(0), "3 1");
+        arrives(x, 5, 0, 2);
+        arrives(x, 6, 2, 0);
+        is("another has 2, so 2 is had by three of five", x.matchedOf(0, 2) + " " + x.committedOf(0), "2 2");
+    }
+
+    @Says(in = "Terms 3", value = "the greatest index of an entry in its log that has its own term")
+    static void elderTermsAreNotCommittedThoughMatched() {
+        QuorumLog x = settled(3);
+        x.askPut(0, 0, 1);
+        for (int index = 2; index <= 5; index++) {
+            x.hand(0, 0);
+        }
+        sendsTo(x, 0, 1);
+        x.deliver(0);
+        is("1 has 2 to 5 of term 1", x.lastOf(1) + " " + x.committedOf(1), "5 1");
+        leadsAnew(x, 1, 2);
+        is("and 6 of term 2, its own", x.lastOf(1) + " " + x.committedOf(1) + " " + x.nextOf(1, 2), "6 0 6");
+        sendsTo(x, 1, 2);
+        x.deliver(0);
+        x.deliver(0);
+        x.deliver(0);
+        is("2 has 2 to 5", row(x), "6:2>1 t2 i5; ");
+        x.deliver(0);
+        is("most have 5, which is not of its own term", x.matchedOf(1, 2) + " " + x.committedOf(1), "5 0");
+        x.deliver(0);
+        x.deliver(0);
+        is("with 6 all are committed", x.matchedOf(1, 2) + " " + x.committedOf(1), "6 6");
+    }
+
     private static void elderTermsAreNotCommittedByCopies() {
         QuorumLog x = settled(3);
         put(x, 0, 0, 0, 1);
@@ -374,6 +413,24 @@ public final class Terms3Test extends Checks {
         arrives(y, 6, 2, 0);
         is("its leaving is committed, the entry behind it is not", y.committedOf(0) + " " + y.lastOf(0), "2 3");
         is("a follower", y.roleOf(0), 0);
+        QuorumLog z = settled(3);
+        put(z, 0, 0, 0, 2);
+        z.pass(6);
+        put(z, 1, 0, 0, 3);
+        z.beat(0);
+        z.leave(0, 0);
+        z.shorten(0);
+        is("snapshot, last", z.snapshotOf(0) + " " + z.lastOf(0), "2 4");
+        arrives(z, 5, 0, 1);
+        arrives(z, 6, 1, 0);
+        arrives(z, 5, 0, 2);
+        arrives(z, 6, 2, 0);
+        is("3 is committed, its leaving with 4 is not", z.committedOf(0) + " " + z.roleOf(0), "3 3");
+        arrives(z, 5, 0, 1);
+        arrives(z, 6, 1, 0);
+        arrives(z, 5, 0, 2);
+        arrives(z, 6, 2, 0);
+        is("then it is", z.committedOf(0) + " " + z.roleOf(0), "4 0");
         QuorumLog two = settled(2);
         two.leave(0, 0);
         two.pass(2);
